@@ -581,8 +581,8 @@ public final class LimbRegisters {
         /** Divides a by b, cut off; with a b that is 0 all of a is rest. */
         void run(Natural a, Natural b) {
             quotient.clear();
-            rest.take(a);
             if (b.isZero() || a.order(b) < 0) {
+                rest.take(a);
                 return;
             }
             // The guess of a limb is good only when the divisor's highest limb is filled.
@@ -840,9 +840,11 @@ public final class LimbRegisters {
         /** Makes the text the numeral of a number, which is 0 then. */
         void writeNumeral(Whole from, int radix) {
             count = 0;
-            do {
+            boolean more = true;
+            for (int i = 0; i < MOST && more; i++) {
                 append(codeOf(from.size.popDigit(radix)));
-            } while (count < MOST && !from.size.isZero());
+                more = !from.size.isZero();
+            }
             if (from.below) {
                 append('-');
             }
