@@ -22,8 +22,8 @@ public final class LimbRegisters {
     private static final long BASE = 1L << LIMB_BITS;
     private static final long MASK = BASE - 1;
 
-    /** A number takes 37 limbs, a product 74, lifted for a division 75, and one stands above it. */
-    private static final int ROOM = 76;
+    /** A number takes 37 limbs, a product 74, also when it is lifted for a division, and one stands above it. */
+    private static final int ROOM = 75;
 
     private final Whole[] registers = new Whole[REGISTERS];
     private final Whole answer = new Whole();

@@ -1,18 +1,36 @@
+import java.util.NoSuchElementException;
 import java.util.Objects;
 
 /** What the tests of this folder share: they tell every wrong answer and end with exit code 1 after one. */
 final class Checks {
+    static final Class<IndexOutOfBoundsException> INDEX = IndexOutOfBoundsException.class;
+    static final Class<IllegalArgumentException> ARGUMENT = IllegalArgumentException.class;
+    static final Class<IllegalStateException> STATE = IllegalStateException.class;
+    static final Class<ArithmeticException> ARITHMETIC = ArithmeticException.class;
+    static final Class<UnsupportedOperationException> TOO_GREAT = UnsupportedOperationException.class;
+    static final Class<NoSuchElementException> NONE = NoSuchElementException.class;
+
     private static final int MOST_TOLD = 50;
     private static int made = 0;
     private static int wrong = 0;
+    private static String sentence = "";
 
     private Checks() {
+    }
+
+    /** The test of one sentence of the document, which is told with every wrong answer. */
+    static void sentence(String words, Runnable test) {
+        int madeBefore = made;
+        sentence = "[" + words + "] ";
+        test.run();
+        due("the sentence has checks", made > madeBefore, true);
+        sentence = "";
     }
 
     static void due(String what, Object got, Object want) {
         made++;
         if (!Objects.equals(got, want)) {
-            tell(what + " answered " + got + ", due is " + want);
+            tell(sentence + what + " answered " + got + ", due is " + want);
         }
     }
 

@@ -42,7 +42,7 @@ final class Numbers {
         return x;
     }
 
-    /** Reads a register with 34 calls, and leaves 0 or -1 in it. */
+    /** Reads a register with 35 calls, and leaves 0 or -1 in it. */
     static BigInteger drain(LimbRegisters x, int r) {
         BigInteger v = BigInteger.ZERO;
         for (int i = 0; i < 17; i++) {

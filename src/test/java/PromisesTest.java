@@ -1,14 +1,7 @@
 import java.math.BigInteger;
-import java.util.NoSuchElementException;
 
 /** Each promise of the document by itself: ordinary inputs, the edges it names, wrong inputs. */
 public final class PromisesTest {
-    private static final Class<IndexOutOfBoundsException> INDEX = IndexOutOfBoundsException.class;
-    private static final Class<IllegalArgumentException> ARGUMENT = IllegalArgumentException.class;
-    private static final Class<IllegalStateException> STATE = IllegalStateException.class;
-    private static final Class<ArithmeticException> ARITHMETIC = ArithmeticException.class;
-    private static final Class<UnsupportedOperationException> TOO_GREAT = UnsupportedOperationException.class;
-    private static final Class<NoSuchElementException> NONE = NoSuchElementException.class;
     private static final int[] NO_REGISTERS = {-1, 12, Integer.MIN_VALUE, Integer.MAX_VALUE};
 
     private PromisesTest() {
@@ -38,9 +31,6 @@ public final class PromisesTest {
         promise19ParseWrong();
         promise20Print();
         promise21Character();
-        termsNamedSeveralTimes();
-        termsNothingChanges();
-        termsObjectsStandAlone();
         Checks.end();
     }
 
@@ -63,7 +53,7 @@ public final class PromisesTest {
             Checks.due("1: bits of a new register", x.bits(r), 0);
             Checks.due("1: bit of a new register", x.bit(r, 5000), false);
         }
-        Checks.throwsDue("1: character of a new text", INDEX, () -> x.character(0));
+        Checks.throwsDue("1: character of a new text", Checks.INDEX, () -> x.character(0));
         Checks.due("1: characters of a new text", x.wipe(), 0);
     }
 
@@ -78,7 +68,7 @@ public final class PromisesTest {
         }
         LimbRegisters x = new LimbRegisters();
         for (int r : NO_REGISTERS) {
-            Checks.throwsDue("2: set of " + r, INDEX, () -> x.set(r, 1));
+            Checks.throwsDue("2: set of " + r, Checks.INDEX, () -> x.set(r, 1));
         }
     }
 
@@ -97,8 +87,8 @@ public final class PromisesTest {
         holds("3: copy onto itself, turned", x, 0, v.negate());
         holds("3: what was copied stays", x, 1, v.negate());
         for (int r : NO_REGISTERS) {
-            Checks.throwsDue("3: copy to " + r, INDEX, () -> x.copy(r, 0, false));
-            Checks.throwsDue("3: copy from " + r, INDEX, () -> x.copy(0, r, false));
+            Checks.throwsDue("3: copy to " + r, Checks.INDEX, () -> x.copy(r, 0, false));
+            Checks.throwsDue("3: copy from " + r, Checks.INDEX, () -> x.copy(0, r, false));
         }
     }
 
@@ -106,9 +96,9 @@ public final class PromisesTest {
         LimbRegisters x = Numbers.with(Numbers.GREATEST, Numbers.GREATEST.negate(), big(1), big(-1));
         x.add(4, 0, 1);
         Checks.due("4: to 0", x.bits(4), 0);
-        Checks.throwsDue("4: 2^1024", TOO_GREAT, () -> x.add(4, 0, 2));
-        Checks.throwsDue("4: -2^1024", TOO_GREAT, () -> x.add(4, 1, 3));
-        Checks.throwsDue("4: twice the greatest", TOO_GREAT, () -> x.add(4, 0, 0));
+        Checks.throwsDue("4: 2^1024", Checks.TOO_GREAT, () -> x.add(4, 0, 2));
+        Checks.throwsDue("4: -2^1024", Checks.TOO_GREAT, () -> x.add(4, 1, 3));
+        Checks.throwsDue("4: twice the greatest", Checks.TOO_GREAT, () -> x.add(4, 0, 0));
         x.add(5, 0, 3);
         x.add(6, 2, 1);
         holds("4: one below the greatest", x, 5, Numbers.GREATEST.subtract(big(1)));
@@ -116,16 +106,16 @@ public final class PromisesTest {
         x.add(7, 3, 3);
         Checks.due("4: -1 and -1", x.low(7), -2L);
         for (int r : NO_REGISTERS) {
-            Checks.throwsDue("4: r " + r, INDEX, () -> x.add(r, 0, 0));
-            Checks.throwsDue("4: a " + r, INDEX, () -> x.add(0, r, 0));
-            Checks.throwsDue("4: b " + r, INDEX, () -> x.add(0, 0, r));
+            Checks.throwsDue("4: r " + r, Checks.INDEX, () -> x.add(r, 0, 0));
+            Checks.throwsDue("4: a " + r, Checks.INDEX, () -> x.add(0, r, 0));
+            Checks.throwsDue("4: b " + r, Checks.INDEX, () -> x.add(0, 0, r));
         }
     }
 
     private static void promise5Subtract() {
         LimbRegisters x = Numbers.with(Numbers.GREATEST, Numbers.GREATEST.negate(), big(1), big(-1), two(56));
-        Checks.throwsDue("5: 2^1024", TOO_GREAT, () -> x.subtract(5, 0, 3));
-        Checks.throwsDue("5: -2^1024", TOO_GREAT, () -> x.subtract(5, 1, 2));
+        Checks.throwsDue("5: 2^1024", Checks.TOO_GREAT, () -> x.subtract(5, 0, 3));
+        Checks.throwsDue("5: -2^1024", Checks.TOO_GREAT, () -> x.subtract(5, 1, 2));
         x.subtract(5, 0, 0);
         Checks.due("5: from itself", x.bits(5), 0);
         x.subtract(5, 2, 0);
@@ -137,9 +127,9 @@ public final class PromisesTest {
         x.subtract(6, 3, 7);
         Checks.due("5: -1 less 0", x.low(6), -1L);
         for (int r : NO_REGISTERS) {
-            Checks.throwsDue("5: r " + r, INDEX, () -> x.subtract(r, 0, 0));
-            Checks.throwsDue("5: a " + r, INDEX, () -> x.subtract(0, r, 0));
-            Checks.throwsDue("5: b " + r, INDEX, () -> x.subtract(0, 0, r));
+            Checks.throwsDue("5: r " + r, Checks.INDEX, () -> x.subtract(r, 0, 0));
+            Checks.throwsDue("5: a " + r, Checks.INDEX, () -> x.subtract(0, r, 0));
+            Checks.throwsDue("5: b " + r, Checks.INDEX, () -> x.subtract(0, 0, r));
         }
     }
 
@@ -148,8 +138,8 @@ public final class PromisesTest {
         LimbRegisters x = Numbers.with(half, two(512), two(511), Numbers.GREATEST.negate(), big(-1));
         x.multiply(5, 0, 0);
         holds("6: square", x, 5, half.multiply(half));
-        Checks.throwsDue("6: 2^1024", TOO_GREAT, () -> x.multiply(5, 1, 1));
-        Checks.throwsDue("6: the greatest possible", TOO_GREAT, () -> x.multiply(5, 3, 3));
+        Checks.throwsDue("6: 2^1024", Checks.TOO_GREAT, () -> x.multiply(5, 1, 1));
+        Checks.throwsDue("6: the greatest possible", Checks.TOO_GREAT, () -> x.multiply(5, 3, 3));
         x.multiply(5, 1, 2);
         holds("6: 2^1023", x, 5, two(1023));
         x.multiply(5, 3, 4);
@@ -159,9 +149,9 @@ public final class PromisesTest {
         x.multiply(5, 4, 0);
         holds("6: one below 0", x, 5, half.negate());
         for (int r : NO_REGISTERS) {
-            Checks.throwsDue("6: r " + r, INDEX, () -> x.multiply(r, 0, 0));
-            Checks.throwsDue("6: a " + r, INDEX, () -> x.multiply(0, r, 0));
-            Checks.throwsDue("6: b " + r, INDEX, () -> x.multiply(0, 0, r));
+            Checks.throwsDue("6: r " + r, Checks.INDEX, () -> x.multiply(r, 0, 0));
+            Checks.throwsDue("6: a " + r, Checks.INDEX, () -> x.multiply(0, r, 0));
+            Checks.throwsDue("6: b " + r, Checks.INDEX, () -> x.multiply(0, 0, r));
         }
     }
 
@@ -203,16 +193,16 @@ public final class PromisesTest {
     private static void promise7DivideWrong() {
         LimbRegisters x = new LimbRegisters();
         x.set(0, 5);
-        Checks.throwsDue("7: by 0", ARITHMETIC, () -> x.divide(1, 2, 0, 3, true));
-        Checks.throwsDue("7: 0 by 0", ARITHMETIC, () -> x.divide(1, 2, 3, 3, false));
-        Checks.throwsDue("7: same register", ARGUMENT, () -> x.divide(1, 1, 0, 0, false));
-        Checks.throwsDue("7: same register before by 0", ARGUMENT, () -> x.divide(1, 1, 0, 3, false));
+        Checks.throwsDue("7: by 0", Checks.ARITHMETIC, () -> x.divide(1, 2, 0, 3, true));
+        Checks.throwsDue("7: 0 by 0", Checks.ARITHMETIC, () -> x.divide(1, 2, 3, 3, false));
+        Checks.throwsDue("7: same register", Checks.ARGUMENT, () -> x.divide(1, 1, 0, 0, false));
+        Checks.throwsDue("7: same register before by 0", Checks.ARGUMENT, () -> x.divide(1, 1, 0, 3, false));
         for (int r : NO_REGISTERS) {
-            Checks.throwsDue("7: q " + r, INDEX, () -> x.divide(r, 1, 0, 3, false));
-            Checks.throwsDue("7: r " + r, INDEX, () -> x.divide(1, r, 0, 3, false));
-            Checks.throwsDue("7: a " + r, INDEX, () -> x.divide(1, 1, r, 3, false));
-            Checks.throwsDue("7: b " + r, INDEX, () -> x.divide(1, 1, 0, r, false));
-            Checks.throwsDue("7: q and r " + r, INDEX, () -> x.divide(r, r, 0, 3, false));
+            Checks.throwsDue("7: q " + r, Checks.INDEX, () -> x.divide(r, 1, 0, 3, false));
+            Checks.throwsDue("7: r " + r, Checks.INDEX, () -> x.divide(1, r, 0, 3, false));
+            Checks.throwsDue("7: a " + r, Checks.INDEX, () -> x.divide(1, 1, r, 3, false));
+            Checks.throwsDue("7: b " + r, Checks.INDEX, () -> x.divide(1, 1, 0, r, false));
+            Checks.throwsDue("7: q and r " + r, Checks.INDEX, () -> x.divide(r, r, 0, 3, false));
         }
     }
 
@@ -220,8 +210,8 @@ public final class PromisesTest {
         LimbRegisters x = Numbers.with(big(5), big(-5), Numbers.GREATEST.negate(), two(1023), big(-8));
         x.shift(5, 0, 1021);
         holds("8: up to 1024 bits", x, 5, big(5).shiftLeft(1021));
-        Checks.throwsDue("8: 1025 bits", TOO_GREAT, () -> x.shift(5, 0, 1022));
-        Checks.throwsDue("8: the most", TOO_GREAT, () -> x.shift(5, 1, Integer.MAX_VALUE));
+        Checks.throwsDue("8: 1025 bits", Checks.TOO_GREAT, () -> x.shift(5, 0, 1022));
+        Checks.throwsDue("8: the most", Checks.TOO_GREAT, () -> x.shift(5, 1, Integer.MAX_VALUE));
         x.shift(5, 6, Integer.MAX_VALUE);
         Checks.due("8: 0 by the most", x.bits(5), 0);
         x.shift(5, 1, -1);
@@ -243,8 +233,8 @@ public final class PromisesTest {
         x.shift(5, 2, 0);
         Checks.due("8: by 0", x.compare(5, 2), 0);
         for (int r : NO_REGISTERS) {
-            Checks.throwsDue("8: r " + r, INDEX, () -> x.shift(r, 0, 5000));
-            Checks.throwsDue("8: a " + r, INDEX, () -> x.shift(0, r, 0));
+            Checks.throwsDue("8: r " + r, Checks.INDEX, () -> x.shift(r, 0, 5000));
+            Checks.throwsDue("8: a " + r, Checks.INDEX, () -> x.shift(0, r, 0));
         }
     }
 
@@ -265,13 +255,13 @@ public final class PromisesTest {
         Checks.due("9: root of 1", x.low(5), 1L);
         x.root(5, 6, Integer.MAX_VALUE);
         Checks.due("9: root of 0", x.bits(5), 0);
-        Checks.throwsDue("9: k 0", ARGUMENT, () -> x.root(5, 0, 0));
-        Checks.throwsDue("9: k below 0", ARGUMENT, () -> x.root(5, 0, Integer.MIN_VALUE));
-        Checks.throwsDue("9: of -1", ARITHMETIC, () -> x.root(5, 4, 3));
-        Checks.throwsDue("9: k before -1", ARGUMENT, () -> x.root(5, 4, 0));
+        Checks.throwsDue("9: k 0", Checks.ARGUMENT, () -> x.root(5, 0, 0));
+        Checks.throwsDue("9: k below 0", Checks.ARGUMENT, () -> x.root(5, 0, Integer.MIN_VALUE));
+        Checks.throwsDue("9: of -1", Checks.ARITHMETIC, () -> x.root(5, 4, 3));
+        Checks.throwsDue("9: k before -1", Checks.ARGUMENT, () -> x.root(5, 4, 0));
         for (int r : NO_REGISTERS) {
-            Checks.throwsDue("9: r " + r, INDEX, () -> x.root(r, 4, 0));
-            Checks.throwsDue("9: a " + r, INDEX, () -> x.root(0, r, 0));
+            Checks.throwsDue("9: r " + r, Checks.INDEX, () -> x.root(r, 4, 0));
+            Checks.throwsDue("9: a " + r, Checks.INDEX, () -> x.root(0, r, 0));
         }
     }
 
@@ -291,9 +281,9 @@ public final class PromisesTest {
         x.gcd(3, 5, 6);
         Checks.due("10: of two below 0", x.low(3), 6L);
         for (int r : NO_REGISTERS) {
-            Checks.throwsDue("10: r " + r, INDEX, () -> x.gcd(r, 0, 0));
-            Checks.throwsDue("10: a " + r, INDEX, () -> x.gcd(0, r, 0));
-            Checks.throwsDue("10: b " + r, INDEX, () -> x.gcd(0, 0, r));
+            Checks.throwsDue("10: r " + r, Checks.INDEX, () -> x.gcd(r, 0, 0));
+            Checks.throwsDue("10: a " + r, Checks.INDEX, () -> x.gcd(0, r, 0));
+            Checks.throwsDue("10: b " + r, Checks.INDEX, () -> x.gcd(0, 0, r));
         }
     }
 
@@ -322,14 +312,14 @@ public final class PromisesTest {
         LimbRegisters x = Numbers.with(a, Numbers.GREATEST, m, big(-1));
         x.power(4, 0, 1, 2);
         holds("11: of the greatest", x, 4, a.modPow(Numbers.GREATEST, m));
-        Checks.throwsDue("11: by 0", ARITHMETIC, () -> x.power(4, 0, 1, 5));
-        Checks.throwsDue("11: by -1", ARITHMETIC, () -> x.power(4, 0, 1, 3));
-        Checks.throwsDue("11: to -1", ARITHMETIC, () -> x.power(4, 0, 3, 2));
+        Checks.throwsDue("11: by 0", Checks.ARITHMETIC, () -> x.power(4, 0, 1, 5));
+        Checks.throwsDue("11: by -1", Checks.ARITHMETIC, () -> x.power(4, 0, 1, 3));
+        Checks.throwsDue("11: to -1", Checks.ARITHMETIC, () -> x.power(4, 0, 3, 2));
         for (int r : NO_REGISTERS) {
-            Checks.throwsDue("11: r " + r, INDEX, () -> x.power(r, 0, 0, 5));
-            Checks.throwsDue("11: a " + r, INDEX, () -> x.power(0, r, 0, 5));
-            Checks.throwsDue("11: e " + r, INDEX, () -> x.power(0, 0, r, 5));
-            Checks.throwsDue("11: m " + r, INDEX, () -> x.power(0, 0, 3, r));
+            Checks.throwsDue("11: r " + r, Checks.INDEX, () -> x.power(r, 0, 0, 5));
+            Checks.throwsDue("11: a " + r, Checks.INDEX, () -> x.power(0, r, 0, 5));
+            Checks.throwsDue("11: e " + r, Checks.INDEX, () -> x.power(0, 0, r, 5));
+            Checks.throwsDue("11: m " + r, Checks.INDEX, () -> x.power(0, 0, 3, r));
         }
     }
 
@@ -356,17 +346,17 @@ public final class PromisesTest {
         LimbRegisters x = Numbers.with(a, m, big(-7), big(15));
         x.inverse(4, 0, 1);
         holds("12: of 2^1023 by the greatest", x, 4, a.modInverse(m));
-        Checks.throwsDue("12: by 0", ARITHMETIC, () -> x.inverse(4, 0, 5));
-        Checks.throwsDue("12: by -7", ARITHMETIC, () -> x.inverse(4, 0, 2));
-        Checks.throwsDue("12: by -7, without one", ARITHMETIC, () -> x.inverse(4, 5, 2));
-        Checks.throwsDue("12: of 0", NONE, () -> x.inverse(4, 5, 3));
+        Checks.throwsDue("12: by 0", Checks.ARITHMETIC, () -> x.inverse(4, 0, 5));
+        Checks.throwsDue("12: by -7", Checks.ARITHMETIC, () -> x.inverse(4, 0, 2));
+        Checks.throwsDue("12: by -7, without one", Checks.ARITHMETIC, () -> x.inverse(4, 5, 2));
+        Checks.throwsDue("12: of 0", Checks.NONE, () -> x.inverse(4, 5, 3));
         x.set(6, 6);
-        Checks.throwsDue("12: of 6 by 15", NONE, () -> x.inverse(4, 6, 3));
-        Checks.throwsDue("12: of 15 by 15", NONE, () -> x.inverse(4, 3, 3));
+        Checks.throwsDue("12: of 6 by 15", Checks.NONE, () -> x.inverse(4, 6, 3));
+        Checks.throwsDue("12: of 15 by 15", Checks.NONE, () -> x.inverse(4, 3, 3));
         for (int r : NO_REGISTERS) {
-            Checks.throwsDue("12: r " + r, INDEX, () -> x.inverse(r, 0, 5));
-            Checks.throwsDue("12: a " + r, INDEX, () -> x.inverse(0, r, 5));
-            Checks.throwsDue("12: m " + r, INDEX, () -> x.inverse(0, 5, r));
+            Checks.throwsDue("12: r " + r, Checks.INDEX, () -> x.inverse(r, 0, 5));
+            Checks.throwsDue("12: a " + r, Checks.INDEX, () -> x.inverse(0, r, 5));
+            Checks.throwsDue("12: m " + r, Checks.INDEX, () -> x.inverse(0, 5, r));
         }
     }
 
@@ -381,8 +371,8 @@ public final class PromisesTest {
             }
         }
         for (int r : NO_REGISTERS) {
-            Checks.throwsDue("13: a " + r, INDEX, () -> x.compare(r, 0));
-            Checks.throwsDue("13: b " + r, INDEX, () -> x.compare(0, r));
+            Checks.throwsDue("13: a " + r, Checks.INDEX, () -> x.compare(r, 0));
+            Checks.throwsDue("13: b " + r, Checks.INDEX, () -> x.compare(0, r));
         }
     }
 
@@ -395,7 +385,7 @@ public final class PromisesTest {
         x.set(0, -4);
         Checks.due("14: bits of -4", x.bits(0), 3);
         for (int r : NO_REGISTERS) {
-            Checks.throwsDue("14: a " + r, INDEX, () -> x.bits(r));
+            Checks.throwsDue("14: a " + r, Checks.INDEX, () -> x.bits(r));
         }
     }
 
@@ -408,10 +398,10 @@ public final class PromisesTest {
             }
         }
         LimbRegisters x = new LimbRegisters();
-        Checks.throwsDue("15: i -1", INDEX, () -> x.bit(0, -1));
-        Checks.throwsDue("15: i least", INDEX, () -> x.bit(0, Integer.MIN_VALUE));
+        Checks.throwsDue("15: i -1", Checks.INDEX, () -> x.bit(0, -1));
+        Checks.throwsDue("15: i least", Checks.INDEX, () -> x.bit(0, Integer.MIN_VALUE));
         for (int r : NO_REGISTERS) {
-            Checks.throwsDue("15: a " + r, INDEX, () -> x.bit(r, 0));
+            Checks.throwsDue("15: a " + r, Checks.INDEX, () -> x.bit(r, 0));
         }
     }
 
@@ -422,7 +412,7 @@ public final class PromisesTest {
         }
         LimbRegisters x = new LimbRegisters();
         for (int r : NO_REGISTERS) {
-            Checks.throwsDue("16: a " + r, INDEX, () -> x.low(r));
+            Checks.throwsDue("16: a " + r, Checks.INDEX, () -> x.low(r));
         }
     }
 
@@ -432,23 +422,23 @@ public final class PromisesTest {
         Checks.due("17: the lowest two of them", x.type(0xff00000000000000L | Numbers.packed("xyz"), 2), 10);
         Checks.due("17: the text", Numbers.textOf(x), "aB ~9-z!yz");
         for (int n : new int[] {0, -1, 9, Integer.MIN_VALUE, Integer.MAX_VALUE}) {
-            Checks.throwsDue("17: n " + n, ARGUMENT, () -> x.type(Numbers.packed("aaaaaaaa"), n));
+            Checks.throwsDue("17: n " + n, Checks.ARGUMENT, () -> x.type(Numbers.packed("aaaaaaaa"), n));
         }
         for (int code : new int[] {0, 31, 127, 128, 255}) {
-            Checks.throwsDue("17: code " + code, ARGUMENT, () -> x.type(code, 1));
-            Checks.throwsDue("17: code " + code + " last", ARGUMENT, () -> x.type(0x6100L | code, 2));
-            Checks.throwsDue("17: code " + code + " first", ARGUMENT,
+            Checks.throwsDue("17: code " + code, Checks.ARGUMENT, () -> x.type(code, 1));
+            Checks.throwsDue("17: code " + code + " last", Checks.ARGUMENT, () -> x.type(0x6100L | code, 2));
+            Checks.throwsDue("17: code " + code + " first", Checks.ARGUMENT,
                     () -> x.type((long) code << 56 | Numbers.packed("aaaaaaa"), 8));
         }
         Checks.due("17: nothing came of these", Numbers.textOf(x), "aB ~9-z!yz");
         for (int i = 0; i < 148; i++) {
             x.type(Numbers.packed("cccccccc"), 8);
         }
-        Checks.throwsDue("17: 1201", STATE, () -> x.type(Numbers.packed("ddddddd"), 7));
-        Checks.throwsDue("17: a wrong code before 1201", ARGUMENT, () -> x.type(127, 7));
+        Checks.throwsDue("17: 1201", Checks.STATE, () -> x.type(Numbers.packed("ddddddd"), 7));
+        Checks.throwsDue("17: a wrong code before 1201", Checks.ARGUMENT, () -> x.type(127, 7));
         Checks.due("17: 1200", x.type(Numbers.packed("abcdef"), 6), 1200);
-        Checks.throwsDue("17: one more", STATE, () -> x.type(97, 1));
-        Checks.throwsDue("17: n before the count", ARGUMENT, () -> x.type(97, 0));
+        Checks.throwsDue("17: one more", Checks.STATE, () -> x.type(97, 1));
+        Checks.throwsDue("17: n before the count", Checks.ARGUMENT, () -> x.type(97, 0));
         Checks.due("17: the last", x.character(1199), (int) 'f');
         Checks.due("17: how many there are", x.wipe(), 1200);
     }
@@ -458,7 +448,7 @@ public final class PromisesTest {
         x.set(3, 77);
         x.type(Numbers.packed("abc"), 3);
         Checks.due("18: wipe", x.wipe(), 3);
-        Checks.throwsDue("18: no character is left", INDEX, () -> x.character(0));
+        Checks.throwsDue("18: no character is left", Checks.INDEX, () -> x.character(0));
         Checks.due("18: wipe again", x.wipe(), 0);
         Checks.due("18: the text begins anew", x.type('a', 1), 1);
         Checks.due("18: registers stay", x.low(3), 77L);
@@ -502,27 +492,27 @@ public final class PromisesTest {
 
     private static void promise19ParseWrong() {
         for (String text : new String[] {"", "-", "--1", "1-", "+1", " 1", "1 ", "1.0", "2", "-12", "1a", "/", ":"}) {
-            parsedWrong(text, 2, STATE);
+            parsedWrong(text, 2, Checks.STATE);
         }
-        parsedWrong("a", 10, STATE);
-        parsedWrong("z", 35, STATE);
-        parsedWrong("Z", 35, STATE);
+        parsedWrong("a", 10, Checks.STATE);
+        parsedWrong("z", 35, Checks.STATE);
+        parsedWrong("Z", 35, Checks.STATE);
         for (String text : new String[] {"@", "[", "`", "{", "~", "z_"}) {
-            parsedWrong(text, 36, STATE);
+            parsedWrong(text, 36, Checks.STATE);
         }
         for (int radix = 2; radix <= 36; radix++) {
-            parsedWrong(Numbers.LIMIT.toString(radix), radix, TOO_GREAT);
-            parsedWrong("-" + Numbers.LIMIT.toString(radix), radix, TOO_GREAT);
+            parsedWrong(Numbers.LIMIT.toString(radix), radix, Checks.TOO_GREAT);
+            parsedWrong("-" + Numbers.LIMIT.toString(radix), radix, Checks.TOO_GREAT);
         }
-        parsedWrong("z".repeat(1200), 36, TOO_GREAT);
-        parsedWrong("z".repeat(1199) + "!", 36, STATE);
+        parsedWrong("z".repeat(1200), 36, Checks.TOO_GREAT);
+        parsedWrong("z".repeat(1199) + "!", 36, Checks.STATE);
         for (int radix : new int[] {1, 0, -2, 37, Integer.MIN_VALUE, Integer.MAX_VALUE}) {
-            parsedWrong("1", radix, ARGUMENT);
-            parsedWrong("", radix, ARGUMENT);
+            parsedWrong("1", radix, Checks.ARGUMENT);
+            parsedWrong("", radix, Checks.ARGUMENT);
         }
         LimbRegisters x = new LimbRegisters();
         for (int r : NO_REGISTERS) {
-            Checks.throwsDue("19: r " + r, INDEX, () -> x.parse(r, 1));
+            Checks.throwsDue("19: r " + r, Checks.INDEX, () -> x.parse(r, 1));
         }
     }
 
@@ -546,10 +536,10 @@ public final class PromisesTest {
         LimbRegisters x = new LimbRegisters();
         Numbers.typeAll(x, "kept");
         for (int radix : new int[] {1, 0, -10, 37, Integer.MIN_VALUE, Integer.MAX_VALUE}) {
-            Checks.throwsDue("20: radix " + radix, ARGUMENT, () -> x.print(0, radix));
+            Checks.throwsDue("20: radix " + radix, Checks.ARGUMENT, () -> x.print(0, radix));
         }
         for (int r : NO_REGISTERS) {
-            Checks.throwsDue("20: a " + r, INDEX, () -> x.print(r, 1));
+            Checks.throwsDue("20: a " + r, Checks.INDEX, () -> x.print(r, 1));
         }
         Checks.due("20: the text stays", Numbers.textOf(x), "kept");
     }
@@ -561,68 +551,7 @@ public final class PromisesTest {
         Checks.due("21: second", x.character(1), 97);
         Checks.due("21: third", x.character(2), 126);
         for (int i : new int[] {3, -1, 1199, 1200, Integer.MIN_VALUE, Integer.MAX_VALUE}) {
-            Checks.throwsDue("21: i " + i, INDEX, () -> x.character(i));
+            Checks.throwsDue("21: i " + i, Checks.INDEX, () -> x.character(i));
         }
-    }
-
-    private static void termsNamedSeveralTimes() {
-        LimbRegisters x = new LimbRegisters();
-        x.set(0, 6);
-        x.add(0, 0, 0);
-        Checks.due("terms: add", x.low(0), 12L);
-        x.multiply(0, 0, 0);
-        Checks.due("terms: multiply", x.low(0), 144L);
-        x.root(0, 0, 2);
-        Checks.due("terms: root", x.low(0), 12L);
-        x.gcd(0, 0, 0);
-        Checks.due("terms: gcd", x.low(0), 12L);
-        x.set(1, 5);
-        x.divide(1, 0, 0, 1, false);
-        Checks.due("terms: divide, quotient", x.low(1), 2L);
-        Checks.due("terms: divide, rest", x.low(0), 2L);
-        x.set(1, -5);
-        x.divide(1, 2, 1, 0, true);
-        Checks.due("terms: divide down, quotient", x.low(1), -3L);
-        Checks.due("terms: divide down, rest", x.low(2), 1L);
-        x.power(0, 0, 0, 0);
-        Checks.due("terms: power", x.low(0), 0L);
-        x.set(0, 5);
-        x.set(1, 3);
-        x.inverse(0, 1, 0);
-        Checks.due("terms: inverse into its modulus", x.low(0), 2L);
-        x.subtract(0, 0, 0);
-        Checks.due("terms: subtract", x.low(0), 0L);
-    }
-
-    private static void termsNothingChanges() {
-        LimbRegisters x = Numbers.with(Numbers.GREATEST, big(3), big(6), big(-1));
-        Numbers.typeAll(x, "12x");
-        Checks.thrownBy(() -> x.add(0, 0, 1));
-        Checks.thrownBy(() -> x.subtract(3, 3, 0));
-        Checks.thrownBy(() -> x.multiply(1, 0, 1));
-        Checks.thrownBy(() -> x.shift(1, 1, 1023));
-        Checks.thrownBy(() -> x.divide(1, 2, 0, 11, true));
-        Checks.thrownBy(() -> x.divide(1, 12, 0, 2, true));
-        Checks.thrownBy(() -> x.root(1, 3, 2));
-        Checks.thrownBy(() -> x.power(1, 0, 3, 2));
-        Checks.thrownBy(() -> x.inverse(2, 1, 2));
-        Checks.thrownBy(() -> x.parse(1, 10));
-        Checks.thrownBy(() -> x.print(1, 37));
-        Checks.thrownBy(() -> x.type(Numbers.packed("ab") << 8, 3));
-        Checks.due("terms: the text after throws", Numbers.textOf(x), "12x");
-        holds("terms: 0 after throws", x, 0, Numbers.GREATEST);
-        holds("terms: 1 after throws", x, 1, big(3));
-        holds("terms: 2 after throws", x, 2, big(6));
-    }
-
-    private static void termsObjectsStandAlone() {
-        LimbRegisters x = new LimbRegisters();
-        LimbRegisters y = new LimbRegisters();
-        x.set(0, 5);
-        y.type('7', 1);
-        y.set(0, 8);
-        Checks.due("terms: register of the one", x.low(0), 5L);
-        Checks.due("terms: text of the one", x.wipe(), 0);
-        Checks.due("terms: text of the other", y.wipe(), 1);
     }
 }
