@@ -16,7 +16,9 @@ public final class FirstExceptionTest {
 
     public static void main(String[] args) {
         for (int none : NO_REGISTERS) {
-            Checks.sentence("4 to 6: register before too great", () -> sums(none));
+            Checks.sentence("4: register before too great", () -> addRegister(none));
+            Checks.sentence("5: register before too great", () -> subtractRegister(none));
+            Checks.sentence("6: register before too great", () -> multiplyRegister(none));
             Checks.sentence("7: register before same register, and before 0", () -> divideRegister(none));
             Checks.sentence("8: register before too great", () -> shiftRegister(none));
             Checks.sentence("9: register before degree, and before below 0", () -> rootRegister(none));
@@ -34,11 +36,19 @@ public final class FirstExceptionTest {
         Checks.end();
     }
 
-    private static void sums(int none) {
-        FROM.refuses("add", Checks.INDEX, x -> x.add(none, MOST, MOST));
-        FROM.refuses("add of the least", Checks.INDEX, x -> x.add(none, LEAST, LEAST));
-        FROM.refuses("subtract", Checks.INDEX, x -> x.subtract(none, MOST, LEAST));
-        FROM.refuses("multiply", Checks.INDEX, x -> x.multiply(none, MOST, SIX));
+    private static void addRegister(int none) {
+        FROM.refuses("the greatest", Checks.INDEX, x -> x.add(none, MOST, MOST));
+        FROM.refuses("the least", Checks.INDEX, x -> x.add(none, LEAST, LEAST));
+    }
+
+    private static void subtractRegister(int none) {
+        FROM.refuses("the greatest less the least", Checks.INDEX, x -> x.subtract(none, MOST, LEAST));
+        FROM.refuses("the least less 6", Checks.INDEX, x -> x.subtract(none, LEAST, SIX));
+    }
+
+    private static void multiplyRegister(int none) {
+        FROM.refuses("the greatest times 6", Checks.INDEX, x -> x.multiply(none, MOST, SIX));
+        FROM.refuses("-6 times the greatest", Checks.INDEX, x -> x.multiply(none, MINUS_SIX, MOST));
     }
 
     private static void divideRegister(int none) {

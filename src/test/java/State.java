@@ -84,7 +84,7 @@ final class State {
             LimbRegisters x = make(used);
             Checks.due(what, call.apply(x), want);
             for (int i = r; i < r + REGISTERS_A_LOOK; i++) {
-                Checks.due("register " + i + " after " + what, Numbers.drain(x, i), after.numbers[i]);
+                registerDue("register " + i + " after " + what, x, i, after.numbers[i]);
             }
         }
         for (int from = 0; from <= after.text.length(); from += CHARACTERS_A_LOOK) {
@@ -93,6 +93,14 @@ final class State {
             Checks.due("text after " + what, partOf(x, from), after.partFrom(from));
             Checks.due("length of the text after " + what, x.wipe(), after.text.length());
         }
+    }
+
+    private static void registerDue(String what, LimbRegisters x, int r, BigInteger want) {
+        if (want.signum() == 0) {
+            // A 0 that is held as one below 0 would show a sign here, and in no bit.
+            Checks.due("numeral of " + what, x.print(r, 2), 1);
+        }
+        Checks.due(what, Numbers.drain(x, r), want);
     }
 
     private String partFrom(int from) {

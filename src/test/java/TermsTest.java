@@ -102,7 +102,8 @@ public final class TermsTest {
         from.leaves("multiply", x -> x.multiply(8, 1, 5), from.with(8, GREATEST));
         from.leaves("divide", x -> x.divide(8, 9, 0, 5, false), from.with(8, LEAST));
         from.leaves("divide down", x -> x.divide(8, 9, 1, 5, true), from.with(8, GREATEST));
-        from.leaves("rest", x -> x.divide(9, 8, 5, 0, true), from.with(9, -1).with(8, GREATEST.subtract(BigInteger.ONE)));
+        from.leaves("rest", x -> x.divide(9, 8, 5, 0, true),
+                from.with(9, -1).with(8, GREATEST.subtract(BigInteger.ONE)));
         from.leaves("shift", x -> x.shift(8, 1, 0), from.with(8, LEAST));
         from.leaves("root", x -> x.root(8, 0, 1), from.with(8, GREATEST));
         from.leaves("gcd", x -> x.gcd(8, 1, 9), from.with(8, GREATEST));
