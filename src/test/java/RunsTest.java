@@ -6,6 +6,8 @@ import java.util.Random;
 /** Runs of all calls with all kinds of arguments; every answer and the state at the end against a model. */
 public final class RunsTest {
     private static final int RUNS = 2500;
+    private static final int RUNS_BY_TURNS = 100;
+    private static final int OBJECTS_BY_TURNS = 5;
     /** With the 420 calls that read all registers an object has 510. */
     private static final int CALLS = 90;
 
@@ -14,24 +16,34 @@ public final class RunsTest {
 
     public static void main(String[] args) {
         for (int run = 0; run < RUNS; run++) {
-            tryRun(run);
+            tryRun(run, 1);
+        }
+        for (int run = 0; run < RUNS_BY_TURNS; run++) {
+            tryRun(run, OBJECTS_BY_TURNS);
         }
         Checks.end();
     }
 
-    private static void tryRun(int run) {
+    /** With several objects, which get their calls by turns, none may show what another was told. */
+    private static void tryRun(int run, int objects) {
         Random random = new Random(run);
-        LimbRegisters x = new LimbRegisters();
-        Model model = new Model();
+        LimbRegisters[] all = new LimbRegisters[objects];
+        Model[] models = new Model[objects];
+        Arrays.setAll(all, i -> new LimbRegisters());
+        Arrays.setAll(models, i -> new Model());
         List<String> told = new ArrayList<>();
-        for (int i = 0; i < CALLS; i++) {
+        for (int i = 0; i < CALLS * objects; i++) {
+            LimbRegisters x = all[i % objects];
+            Model model = models[i % objects];
             String name = Calls.NAMES[random.nextInt(Calls.NAMES.length)];
             long[] with = arguments(name, random, model);
             told.add(name + Arrays.toString(with));
-            Checks.due("run " + run + " " + told, Calls.answerOf(() -> Calls.call(x, name, with)),
+            Checks.due("run " + run + " of " + objects + " " + told, Calls.answerOf(() -> Calls.call(x, name, with)),
                     Calls.answerOf(() -> model.call(name, with)));
         }
-        stateDue("run " + run + " " + told, x, model, run);
+        for (int i = 0; i < objects; i++) {
+            stateDue("run " + run + " of " + objects + " " + told, all[i], models[i], run);
+        }
     }
 
     /** Few enough calls for an object: all registers, or the text where it is short enough. */
